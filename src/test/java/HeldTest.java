@@ -143,6 +143,14 @@ public final class HeldTest {
         }
         again(x, 2, 1);
         Due.is("the end of a row gives in", x.settle(6, 60), 0);
+        PlumbCreeds y = Due.three();
+        y.one(3, 2, 0);
+        y.one(5, 0, 0);
+        y.kin(1, 3, true);
+        y.kin(3, 5, true);
+        y.kin(1, 5, true);
+        again(y, 3, 1);
+        Due.is("of three, the least of both others: B", y.settle(1, 1), 0);
     }
 
     private static void again(PlumbCreeds x, int year, int between) {
@@ -209,6 +217,11 @@ public final class HeldTest {
         x.leave(2);
         Due.is("who is no more does not doubt", x.book(0, 1, 2), 0);
         booked(new PlumbCreeds(), 9999, 99, 0, 0, 0);
+        PlumbCreeds y = new PlumbCreeds();
+        for (int one = 1; one < 7; one++) {
+            y.one(one, 0, 9);
+        }
+        booked(y, 0, 1, 0, 0, 54);
     }
 
     private static void booked(PlumbCreeds x, int seed, int m, int walls, int falls, int doubt) {

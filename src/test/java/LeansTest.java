@@ -79,6 +79,15 @@ public final class LeansTest {
         wedged(x, 0, 1, 18, 1);
         x.creed(2, 9);
         wedged(x, 0, 4, 0, 19);
+        x.creed(0, -4);
+        x.bear(1);
+        wedged(x, 0, 1, 12, 7);
+        Due.carryOut(x, "A0A1", 2);
+        wedged(x, 0, 1, 0, 6);
+        x.creed(0, -3);
+        wedged(x, 0, 1, 0, 6);
+        x.creed(0, -2);
+        wedged(x, 0, 1, 1, 7);
     }
 
     private static void testPromise19Meet() {
@@ -93,6 +102,12 @@ public final class LeansTest {
         x.creed(1, 4);
         met(x, 0, 1, 11, 0, 4);
         met(x, 0, 1, 40, 5, 15);
+        x.creed(1, 1);
+        met(x, 0, 1, 8, 0, 1);
+        met(x, 0, 1, 3, 3, 0);
+        x.creed(1, 0);
+        met(x, 0, 1, 40, 0, 0);
+        met(x, 1, 0, 40, 0, 40);
         Due.is("meet(0, 3, 41, 0)", x.meet(0, 3, 41, 0), PlumbCreeds.UNKNOWN);
         Due.is("meet(3, 0, 4, 0)", x.meet(3, 0, 4, 0), PlumbCreeds.UNKNOWN);
         Due.is("meet(-1, 0, 4, 0)", x.meet(-1, 0, 4, 0), PlumbCreeds.UNKNOWN);

@@ -141,6 +141,7 @@ public final class YearsTest {
         fallen(x, "A0A^0B^0..", PlumbCreeds.NONE, PlumbCreeds.NONE, 0, 2);
         fallen(x, "*A0.C^0", 3, 2, 1, 1);
         fallen(x, "A0.C3A^3A^3C^0", 3, 0, 3, 1);
+        fallen(x, "A0A^0*", PlumbCreeds.NONE, PlumbCreeds.NONE, 0, 0);
         Due.is("fell(-1)", x.fell(-1), PlumbCreeds.OUTSIDE);
         Due.is("fell(4)", x.fell(4), PlumbCreeds.OUTSIDE);
         Due.write(x, "*Ax");
