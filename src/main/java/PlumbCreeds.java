@@ -353,7 +353,7 @@ public final class PlumbCreeds {
             return OUTSIDE;
         }
         settling.findAgain(now);
-        return what == 0 ? settling.againYear : settling.againYear - settling.earlierYear;
+        return what == 0 ? settling.againYear : settling.yearsBetween;
     }
 
     public long climb(int v, int m, int w, int t, int what, int part) {
@@ -568,6 +568,12 @@ public final class PlumbCreeds {
         void copyFrom(Row other) {
             for (int i = 0; i < cells.length; i++) {
                 cells[i] = other.get(i);
+            }
+        }
+
+        void clear() {
+            for (int i = 0; i < cells.length; i++) {
+                cells[i] = 0;
             }
         }
     }
@@ -934,9 +940,9 @@ public final class PlumbCreeds {
     private static final class Settling {
         final Row held = new Row(ONES);
         private final Row taken = new Row(ONES);
-        private final Row history = new Row(CREED_STATES + 1);
+        private final Row passed = new Row(CREED_STATES / 32 + 1);
         int againYear = 0;
-        int earlierYear = 0;
+        int yearsBetween = 0;
 
         void start(Valley valley) {
             held.copyFrom(valley.creedOf);
@@ -974,18 +980,28 @@ public final class PlumbCreeds {
         /** Behind CREED_STATES years at most, since there are no more states than that. */
         void findAgain(Valley valley) {
             start(valley);
+            passed.clear();
             for (int year = 0; year <= CREED_STATES; year++) {
-                int code = heldAsNumber();
-                for (int earlier = 0; earlier < year; earlier++) {
-                    if (history.get(earlier) == code) {
-                        againYear = year;
-                        earlierYear = earlier;
-                        return;
-                    }
+                int state = heldAsNumber();
+                if (has(passed.get(state / 32), state % 32)) {
+                    againYear = year;
+                    yearsBetween = yearsRound(state, valley);
+                    return;
                 }
-                history.set(year, code);
+                passed.set(state / 32, passed.get(state / 32) | 1 << state % 32);
                 passYear(valley);
             }
+        }
+
+        /** From a state that comes again, so going on from it leads there. */
+        private int yearsRound(int state, Valley valley) {
+            for (int years = 1; years <= CREED_STATES; years++) {
+                passYear(valley);
+                if (heldAsNumber() == state) {
+                    return years;
+                }
+            }
+            return NONE;
         }
 
         private int heldAsNumber() {

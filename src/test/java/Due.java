@@ -14,6 +14,14 @@ final class Due {
         }
     }
 
+    static void isText(String call, String got, String want) {
+        asked++;
+        if (!got.equals(want)) {
+            wrong++;
+            System.out.println(call + ":\n  is  " + got + "\n  due " + want);
+        }
+    }
+
     static void isTrue(String claim, boolean holds) {
         is(claim, holds ? 1 : 0, 1);
     }

@@ -63,7 +63,7 @@ public final class LanguageTest {
     private static void testRoom(String code) {
         for (String line : code.split("\n")) {
             if (line.contains("new ")) {
-                Due.isTrue("made once: " + line, line.matches(" +(private )?final \\w+ \\w+ = new \\w+\\([\\w +]*\\);")
+                Due.isTrue("made once: " + line, line.matches(" +(private )?final \\w+ \\w+ = new \\w+\\([\\w +/]*\\);")
                         || line.equals("            cells = new int[Math.max(length, 0)];"));
             }
         }

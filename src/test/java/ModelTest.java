@@ -1,7 +1,9 @@
-/** All promises: runs of 512 calls, drawn by a fixed rule, answered by the class and by the model alike. */
+/** All promises: runs of up to 512 calls, drawn by a fixed rule, answered by the class and by the model alike. */
 public final class ModelTest {
     private static final int RUNS = 600;
+    /** Behind as many calls nothing is promised, so the last drawn ones and what is told at the end fit below. */
     private static final int CALLS = 512;
+    private static final int MOST_OF_ONE_DRAW = 31;
     private static final int[] STRANGE = {Integer.MIN_VALUE, Integer.MIN_VALUE + 1, -1000000, -200, -11, -10, -2, -1,
         8, 10, 12, 19, 31, 32, 41, 61, 63, 64, 100, 127, 128, 255, 10000, 65536, 1 << 30, Integer.MAX_VALUE};
     private static final String[] KINDS = {"creed", "bear", "one", "one", "one", "leave", "kin", "kin", "stair",
@@ -23,7 +25,7 @@ public final class ModelTest {
     }
 
     private void run() {
-        while (calls < CALLS) {
+        while (calls < CALLS - MOST_OF_ONE_DRAW - Edge.TOLD.length) {
             String kind = KINDS[draw(KINDS.length)];
             try {
                 ask(kind);
@@ -31,9 +33,10 @@ public final class ModelTest {
                 Due.isTrue(kind + " threw " + machine, false);
             }
         }
-        for (int what = -1; what < 320; what++) {
+        for (int what : Edge.TOLD) {
             same("at the end told(" + what + ")", x.told(what), model.told(what));
         }
+        Due.isTrue("calls of one object: " + calls, calls <= CALLS);
     }
 
     private static int draw(int many) {
@@ -176,7 +179,7 @@ public final class ModelTest {
         int a = number(0, 6);
         int what = number(0, 1);
         // Half of the sets are of those who are there, since most sets else are refused.
-        int set = draw(2) == 0 ? number(0, 127) : draw(128) & x.told(1);
+        int set = draw(2) == 0 ? number(0, 127) : draw(128) & model.told(1);
         int b;
         int c;
         switch (kind) {
