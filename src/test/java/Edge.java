@@ -5,7 +5,8 @@ final class Edge {
     static final long LOST = PlumbCreeds.LOST + PlumbCreeds.OUTSIDE;
 
     /** All that told() can be asked for. */
-    static final int[] TOLD = {0, 1, 2, 3, 4, 5, 6, 10, 11, 12, 20, 21, 40, 41, 60, 61, 80, 81, 100, 101, 120, 121, 140, 141,
+    static final int[] TOLD = {0, 1, 2, 3, 4, 5, 6, 10, 11, 12,
+        20, 21, 40, 41, 60, 61, 80, 81, 100, 101, 120, 121, 140, 141,
         200, 201, 210, 211, 220, 221, 230, 231, 240, 241, 250, 251, 260, 261, 270, 271,
         300, 301, 302, 303, 304, 305, 306, 307, 308, 309, 310, 311};
 
@@ -76,7 +77,7 @@ final class Edge {
         Due.isText("behind " + call, portrait(x), portrait(twin));
     }
 
-    /** All that the object holds, as text; asking for KIN and images changes it, so it is of no use then. */
+    /** All that the object holds, as text; asking for KIN and images changes it, so nothing is asked of it then. */
     static String portrait(PlumbCreeds x) {
         StringBuilder text = new StringBuilder();
         text.append("told").append(told(x));

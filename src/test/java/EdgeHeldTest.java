@@ -29,6 +29,7 @@ public final class EdgeHeldTest {
         promise26FirstRefusal();
         promise27Nobody();
         promise27AllSeven();
+        promise27GreatestCreeds();
         promise27InTurn();
         promise27Refused();
         promise28NoFloors();
@@ -365,6 +366,26 @@ public final class EdgeHeldTest {
         again(x, 2, 1);
         x.one(5, 2, 0);
         again(x, 1, 1);
+    }
+
+    /** All holding z, and two more who change in turn: the last of all that creeds can be. */
+    private static void promise27GreatestCreeds() {
+        PlumbCreeds x = new PlumbCreeds();
+        for (int one = 0; one < 7; one++) {
+            x.one(one, 2, 0);
+        }
+        again(x, 1, 1);
+        x.kin(5, 6, true);
+        again(x, 1, 1);
+        x.one(5, 0, 0);
+        x.one(6, 1, 0);
+        again(x, 2, 2);
+        x.kin(0, 1, true);
+        x.one(0, 1, 0);
+        again(x, 2, 2);
+        x.kin(1, 2, true);
+        x.kin(0, 2, true);
+        again(x, 3, 2);
     }
 
     private static void promise27InTurn() {
