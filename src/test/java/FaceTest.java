@@ -2,6 +2,8 @@ import java.lang.reflect.Constructor;
 import java.lang.reflect.Field;
 import java.lang.reflect.Method;
 import java.lang.reflect.Modifier;
+import java.util.ArrayList;
+import java.util.List;
 import java.util.Set;
 import java.util.TreeSet;
 
@@ -21,6 +23,7 @@ public final class FaceTest {
         testConstructors(face);
         testFields(face);
         testNestedNames(face);
+        testFieldsAreFew(face);
         Due.end("FaceTest");
     }
 
@@ -64,8 +67,6 @@ public final class FaceTest {
             if (!Modifier.isPrivate(field.getModifiers())) {
                 seen.add(field.getType() + " " + field.getName());
             }
-            Due.isTrue(field + " is final, if it is static",
-                    !Modifier.isStatic(field.getModifiers()) || Modifier.isFinal(field.getModifiers()));
         }
         Set<String> wanted = new TreeSet<>(Set.of("int NONE", "int UNKNOWN", "int OUTSIDE", "int STATE", "int FULL",
                 "int NO", "long LOST"));
@@ -86,6 +87,21 @@ public final class FaceTest {
             for (Method method : nested.getDeclaredMethods()) {
                 Due.isTrue(method + " bears no public name", !isFaceName(method.getName()));
             }
+        }
+    }
+
+    /** Rules 5 and 11: what is static is final, and a class has twenty fields at most beside its constants. */
+    private static void testFieldsAreFew(Class<?> face) {
+        List<Class<?>> all = new ArrayList<>(List.of(face.getDeclaredClasses()));
+        all.add(face);
+        for (Class<?> each : all) {
+            int fields = 0;
+            for (Field field : each.getDeclaredFields()) {
+                boolean isStatic = Modifier.isStatic(field.getModifiers());
+                fields += isStatic ? 0 : 1;
+                Due.isTrue(field + " is final, if it is static", !isStatic || Modifier.isFinal(field.getModifiers()));
+            }
+            Due.isTrue(each + " has twenty fields at most: " + fields, fields <= 20);
         }
     }
 }

@@ -11,7 +11,6 @@ public final class ValleyTest {
         testPromise8Say();
         testPromise9Wipe();
         testPromise10Fault();
-        testReadme();
         Due.end("ValleyTest");
     }
 
@@ -170,15 +169,5 @@ public final class ValleyTest {
         Due.is("fault() of a full pad", x.fault(), PlumbCreeds.NONE);
         Due.write(x, "A^0".repeat(19) + "A0A");
         Due.is("fault() of a full pad that lacks a sign", x.fault(), 60);
-    }
-
-    private static void testReadme() {
-        PlumbCreeds x = new PlumbCreeds();
-        x.one(0, 0, 0);
-        x.one(1, 2, 8);
-        Due.write(x, "A0B^0");
-        Due.is("readme: fell(1)", x.fell(1), 1);
-        Due.is("readme: done()", x.done(), 2);
-        Due.is("readme: told(40)", x.told(40), 0);
     }
 }
